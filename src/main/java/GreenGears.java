@@ -1883,7 +1883,7 @@ public final class GreenGears {
         int tellLayers(Build lump, Row row) {
             fill(layers, NONE);
             int fewest = 0;
-            for (int k = 0; k < groups && !completes(this, fewest, 0); k++) {
+            for (int k = 0; k < groups && !completes(this, (1 << groups) - 1, fewest, 0); k++) {
                 fewest++;
             }
             for (int g = 0; g < groups; g++) {
@@ -1899,10 +1899,10 @@ public final class GreenGears {
             return fewest;
         }
 
-        /** Puts a group on a layer if the others can follow. */
+        /** Puts a group on a layer if those behind it, that have none yet, can follow. */
         private boolean stays(int g, int c, int most) {
             put(layers, g, c);
-            boolean can = completes(this, most, 0);
+            boolean can = completes(this, (1 << groups) - (2 << g), most, 0);
             if (!can) {
                 put(layers, g, NONE);
             }
@@ -1921,13 +1921,16 @@ public final class GreenGears {
             return (1 << Math.min(used + 1, most)) - 1 & ~barred;
         }
 
-        /** The group without a layer that has the fewest open to it; NONE if all have one. */
-        private int tightest(int most) {
+        /**
+         * Of some groups the one that has the fewest layers open to it, of equal ones that with the
+         * most clashes: so it shows soonest what can't be.
+         */
+        private int tightest(int some, int most) {
             int best = NONE;
             int fewest = 0;
             for (int g = 0; g < groups; g++) {
-                if (at(layers, g) == NONE) {
-                    int n = Integer.bitCount(openTo(g, most));
+                if ((some >> g & 1) == 1) {
+                    int n = Integer.bitCount(openTo(g, most)) * WHEELS - Integer.bitCount(at(clashes, g));
                     if (best == NONE || n < fewest) {
                         best = g;
                         fewest = n;
@@ -1937,21 +1940,44 @@ public final class GreenGears {
             return best;
         }
 
-        /** Whether all groups without a layer can have one of so many; none has it after. */
-        private static boolean completes(Plates plates, int most, int depth) {
-            int g = plates.tightest(most);
-            if (g == NONE) {
-                return true;
+        /** Of some groups the first and those that clash with it, one or more clashes apart. */
+        private int clashingWithFirst(int some) {
+            int found = some & -some;
+            int before = 0;
+            for (int k = 0; k < WHEELS && found != before; k++) {
+                before = found;
+                for (int g = 0; g < groups; g++) {
+                    found |= (found >> g & 1) == 1 ? at(clashes, g) & some : 0;
+                }
             }
+            return found;
+        }
+
+        /** Whether all of some groups without a layer can have one of so many; none has it after. */
+        private static boolean completes(Plates plates, int some, int most, int depth) {
+            int rest = some;
+            for (int k = 0; k < WHEELS && rest != 0; k++) {
+                // those that do not clash can't hinder one another: each lot is tried alone
+                int lot = plates.clashingWithFirst(rest);
+                if (!completesLot(plates, lot, most, depth)) {
+                    return false;
+                }
+                rest &= ~lot;
+            }
+            return true;
+        }
+
+        private static boolean completesLot(Plates plates, int lot, int most, int depth) {
             if (depth >= WHEELS) {
                 return false;
             }
+            int g = plates.tightest(lot, most);
             int open = plates.openTo(g, most);
             boolean can = false;
             for (int c = 0; c < most && !can; c++) {
                 if ((open >> c & 1) == 1) {
                     put(plates.layers, g, c);
-                    can = completes(plates, most, depth + 1);
+                    can = completes(plates, lot & ~(1 << g), most, depth + 1);
                     put(plates.layers, g, NONE);
                 }
             }
@@ -2025,12 +2051,17 @@ public final class GreenGears {
 
         int tellFewestWrong(Row row) {
             int best = 0;
+            int fewest = Integer.bitCount(wrongAt(0));
             for (int month = 1; month < MONTHS; month++) {
-                best = Integer.bitCount(wrongAt(month)) < Integer.bitCount(wrongAt(best)) ? month : best;
+                int n = Integer.bitCount(wrongAt(month));
+                if (n < fewest) {
+                    best = month;
+                    fewest = n;
+                }
             }
             row.add(best);
             row.add(wrongAt(best));
-            return Integer.bitCount(wrongAt(best));
+            return fewest;
         }
 
         int yearOfFour() {
