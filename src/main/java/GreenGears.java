@@ -869,10 +869,6 @@ public final class GreenGears {
             return at(levels, w);
         }
 
-        int spanOf(int w) {
-            return mostOf(w) - leastOf(w) + 1;
-        }
-
         void takeTeeth(int w, int n) {
             put(taken, w, n);
         }

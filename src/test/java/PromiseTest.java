@@ -304,6 +304,9 @@ public final class PromiseTest {
         due(-1, x.mesh(2, 2));
         due(-1, x.mesh(0, 7));
         due(-1, x.mesh(0, 14));
+        due(-1, x.mesh(1, 14));
+        due(-1, x.mesh(14, 1));
+        due(-1, x.mesh(1, -1));
         due(-1, x.mesh(-1, 0));
         due(1, x.count(1));
         due(2, x.mesh(2, 0));
@@ -722,6 +725,24 @@ public final class PromiseTest {
         due(false, x.fit(2, 0, 0));
         due("[1, 1]", rowNow());
         due("8[20, 10]", told(x.fittings(1, 0)));
+        // products by which the period goes above what 64 bits hold; the last wheel is one between
+        fresh();
+        wheel(10, 0, 0);
+        wheel(400, 2, 0);
+        for (int a = 2; a < 7; a++) {
+            wheel(10, a, a);
+            wheel(400, a + 1, a);
+        }
+        wheel(33, 1, 0);
+        x.mesh(0, 12);
+        x.mesh(12, 1);
+        for (int a = 2; a < 7; a++) {
+            x.mesh(2 * a - 2, 2 * a - 1);
+        }
+        book("2000:1;1:2000;1:1");
+        due("0[]", told(x.fittings(7, 0)));
+        due(0, x.may(7));
+        due("7", told(x.way(7)).substring(0, 1));
         // seven pairs of many teeth: products far above what 32 bits hold
         fresh();
         for (int a = 0; a < 7; a++) {
@@ -794,6 +815,7 @@ public final class PromiseTest {
         due("0[25, 30, 2]", told(x.sure(1, 2, 0)));
         due("0[30, 30, 1]", told(x.sure(1, 1, 0)));
         due(-2, x.sure(1, 3, 0));
+        due("[30, 30, 1]", rowNow());
         due(-2, x.sure(2, 0, 0));
         due(-1, x.sure(1, 0, 2));
         due(-1, x.sure(1, 0, -1));
@@ -802,6 +824,18 @@ public final class PromiseTest {
         due(-1, x.sure(0, 0, 0));
         due(-1, x.sure(10, 0, 0));
         due("[30, 30, 1]", rowNow());
+        // wheels of the same teeth are told apart
+        fresh();
+        x.wheel(10, 12, 0, 0);
+        x.wheel(10, 24, 1, 0);
+        x.mesh(0, 1);
+        book("1:1;1:2");
+        due("0[10, 12, 3]", told(x.sure(1, 0, 0)));
+        due("0[10, 12, 3]", told(x.sure(1, 0, 1)));
+        due("0[10, 12, 3]", told(x.sure(1, 1, 0)));
+        due("0[20, 24, 3]", told(x.sure(1, 1, 1)));
+        of(20);
+        due("0[1]", told(x.next(1, 0)));
     }
 
     private static void may() {
@@ -820,6 +854,7 @@ public final class PromiseTest {
         of(20);
         twoWheels();
         // each number of each wheel stands in one fitting: the first wheel
+        x.turn(0);
         due("0[1]", told(x.next(1, 0)));
         due(-2, x.next(1, 3));
         due(-2, x.next(2, 0));
@@ -923,6 +958,12 @@ public final class PromiseTest {
         due(-4, book("1:2\u00b2"));
         due(-4, book("1:2\u00e9"));
         due(-1, book("\u0000"));
+        // no name is left from a book before
+        book("1:1a;1:1b");
+        book("1:1a;1:1b");
+        due(2, book("1:1;1:1"));
+        due(0, names("a"));
+        due(2, names("?"));
         // numbers of 1 to 4 digits; 0 and above 2000 at their last digit
         due(-1, book("0:1"));
         due(-1, book("0"));
@@ -936,6 +977,7 @@ public final class PromiseTest {
         due(-4, book("20011:1"));
         due(-5, book("12345:1"));
         due(-5, book("1999"));
+        due(2, x.count(2));
         due(1, book("2000:2000"));
         due(-3, book("1:0"));
         due(-3, book("1:0;"));
@@ -1034,6 +1076,18 @@ public final class PromiseTest {
         x.shop(10, 35);
         due(true, x.trains(0, 2) > 0);
         due("[10, 15, 10, 10]", rowNow());
+        // the one with the fewest teeth is not the one with the least a and b and c
+        book("1:3;1:4");
+        x.shop(10, 30);
+        due("63[10, 10, 15, 20]", told(x.trains(0, 2)));
+        due("26[10, 10, 20, 20]", told(x.trains(1, 2)));
+        // 210 teeth together twice: 49 77 by 42 42 and 55 70 by 40 45, and turned about
+        book("77:36;36:77");
+        x.shop(40, 90);
+        x.trains(0, 2);
+        due("[49, 77, 42, 42]", rowNow());
+        x.trains(1, 2);
+        due("[40, 45, 55, 70]", rowNow());
     }
 
     private static void nearest() {
@@ -1081,7 +1135,13 @@ public final class PromiseTest {
         due(-1, x.common(0));
         x.shop(10, 70);
         due("10[1]", told(x.common(1)));
-        // 40 / 20 alone makes it: b too drives
+        book("49:1");
+        due("70[1]", told(x.common(1)));
+        // 20 is the greater one of both trains
+        x.shop(10, 20);
+        book("3:1;11:7");
+        due("20[3]", told(x.common(3)));
+        // 40 / 20 alone makes it
         x.shop(20, 40);
         book("4:1");
         due("40[1]", told(x.common(1)));
@@ -1187,6 +1247,16 @@ public final class PromiseTest {
         wheel(50, 5, 4);
         wheel(50, 5, 1);
         due(49, x.pierced());
+        // wheels at the depths of its ends alone do not stop it; the first wheel may be the one that does
+        fresh();
+        wheel(50, 1, 1);
+        wheel(20, 0, 0);
+        wheel(20, 0, 3);
+        wheel(20, 2, 0);
+        wheel(20, 3, 3);
+        due(1, x.pierced());
+        x.axle(1, 60, 0);
+        due(0, x.pierced());
         // a wheel of its own does not count
         fresh();
         wheel(10, 0, 1);
@@ -1233,6 +1303,18 @@ public final class PromiseTest {
         x.mesh(0, 1);
         due("2[0, 0, 1]", told(x.depths()));
         x.mesh(2, 1);
+        due(-2, x.depths());
+        // those led together that stand in each other's way are not the first
+        fresh();
+        wheel(20, 5, 0);
+        x.axle(5, 500, 500);
+        wheel(20, 0, 0);
+        wheel(20, 1, 0);
+        wheel(20, 0, 0);
+        x.axle(1, 40, 0);
+        x.mesh(1, 2);
+        due("2[0, 0, 0, 1]", told(x.depths()));
+        x.mesh(2, 3);
         due(-2, x.depths());
         // fourteen on one axle need fourteen
         fresh();
@@ -1594,6 +1676,12 @@ public final class PromiseTest {
             due(-1, x.year());
             x.games(games);
             due(set[games % 4], x.year());
+            fresh();
+            x.games(games);
+            x.games(games + 2);
+            due(-2, x.year());
+            fresh();
+            x.games(games);
             x.games(games + 400);
             due(set[games % 4], x.year());
             x.games(games + 401);
@@ -1662,6 +1750,19 @@ public final class PromiseTest {
         wheel(45, 0, 0);
         wheel(39, 0, 0);
         due("0[2]", told(x.breaks()));
+        // 29 is both, 20 one alone; wheel 0 is it
+        fresh();
+        x.left(0, 0, 20, 30);
+        x.left(0, 0, 28, 40);
+        wheel(29, 0, 0);
+        wheel(20, 0, 0);
+        due("0[1]", told(x.breaks()));
+        x.left(0, 0, 20, 20);
+        due("0[2]", told(x.breaks()));
+        x.left(0, 0, 29, 29);
+        x.left(1, 0, 29, 29);
+        x.left(0, 1, 29, 29);
+        due("48[-1]", told(x.breaks()));
     }
 
     private static void builds() {
@@ -1708,6 +1809,28 @@ public final class PromiseTest {
         x.keep(1);
         due(true, x.again(1));
         due("2 1 25", x.count(0) + " " + x.count(1) + " " + x.of(0, 2));
+        // meshes and both numbers of a place come back
+        fresh();
+        for (int a = 0; a < 4; a++) {
+            wheel(20, a, 0);
+        }
+        x.mesh(2, 3);
+        x.axle(3, 24, 32);
+        x.axle(2, 0, 0);
+        x.keep(2);
+        x.part();
+        x.mesh(0, 1);
+        x.axle(3, 24, -100);
+        x.again(2);
+        due("0 0 8 4", x.of(0, 5) + " " + x.of(1, 5) + " " + x.of(2, 5) + " " + x.of(3, 5));
+        x.room(0);
+        due(0L, x.row(5));
+        x.axle(3, 25, 32);
+        x.room(0);
+        due(1L, x.row(5));
+        x.again(2);
+        x.room(0);
+        due(0L, x.row(5));
     }
 
     private static void unlike() {
