@@ -1877,15 +1877,16 @@ public final class GreenGears {
 
         /** The fewest layers; the row: the least by wheels. The groups stand. */
         int tellLayers(Build lump, Row row) {
-            fill(layers, NONE);
-            int fewest = 0;
-            for (int k = 0; k < groups && !completes(this, (1 << groups) - 1, fewest, 0); k++) {
-                fewest++;
-            }
+            int fewest = fewestLayers();
             for (int g = 0; g < groups; g++) {
+                int open = openTo(g, fewest);
+                int behind = (1 << groups) - (2 << g);
                 boolean set = false;
                 for (int c = 0; c < fewest && !set; c++) {
-                    set = (openTo(g, fewest) >> c & 1) == 1 && stays(g, c, fewest);
+                    if ((open >> c & 1) == 1) {
+                        put(layers, g, c);
+                        set = completes(this, behind, fewest, 0);
+                    }
                 }
             }
             row.clear();
@@ -1895,14 +1896,15 @@ public final class GreenGears {
             return fewest;
         }
 
-        /** Puts a group on a layer if those behind it, that have none yet, can follow. */
-        private boolean stays(int g, int c, int most) {
-            put(layers, g, c);
-            boolean can = completes(this, (1 << groups) - (2 << g), most, 0);
-            if (!can) {
-                put(layers, g, NONE);
+        /** How few layers do; no group has one after. */
+        private int fewestLayers() {
+            fill(layers, NONE);
+            int all = (1 << groups) - 1;
+            int fewest = 0;
+            for (int k = 0; k < groups && !completes(this, all, fewest, 0); k++) {
+                fewest++;
             }
-            return can;
+            return fewest;
         }
 
         /** Layers (bits) on which a group could be; of the unused ones only the first. */
