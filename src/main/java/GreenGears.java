@@ -1447,7 +1447,6 @@ public final class GreenGears {
         int read(Text text) {
             size = 0;
             place = 0;
-            good = true;
             if (text.size == 0) {
                 return 0;
             }

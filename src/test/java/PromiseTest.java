@@ -238,6 +238,10 @@ public final class PromiseTest {
         due(31, x.arc(2, 1, 50, 10));
         // no whole number between 3600 * 7 / 401 and 3600 * 7 / 399: 62.8 .. 63.1 has 63; none for 11 on 527
         due(-2, x.arc(2, 11, 527, 0));
+        // 3600 by 61 is just above 59: cut up it is 60
+        x.wheel(10, 400, 0, 0);
+        due(28, x.arc(3, 1, 51, 10));
+        due("60 87", x.of(3, 0) + " " + x.of(3, 1));
         // more than 400 seen by the arc
         due(-2, x.arc(2, 200, 1, 0));
         due(-2, x.arc(2, 1, 3600, 0));
@@ -707,6 +711,12 @@ public final class PromiseTest {
         book("2:1");
         // teeth 20, 22, .. 218 of the first, each with eight between
         due("800[20, 10, 10]", told(x.fittings(2, 0)));
+        // twice as many by one wheel more
+        x.wheel(10, 11, 2, 1);
+        x.wheel(10, 10, 3, 1);
+        x.mesh(3, 4);
+        due(-4, x.fittings(3, 0));
+        due(800, x.fittings(2, 0));
         fresh();
         x.wheel(10, 260, 0, 0);
         x.wheel(10, 17, 1, 0);

@@ -8,7 +8,10 @@ import java.util.NoSuchElementException;
 import java.util.Random;
 import java.util.TreeMap;
 
-/** Runs made by numbers that are always the same: GreenGears has to answer as PlainGears does. */
+/**
+ * Runs made by numbers that are always the same: GreenGears has to answer as PlainGears does.
+ * An argument tells another number of runs, and to print which answers they met.
+ */
 public final class RandomRunsTest {
     private static final int RUNS = 1600;
     private static final int CALLS = 320;
@@ -35,7 +38,8 @@ public final class RandomRunsTest {
 
     public static void main(String[] args) {
         Map<String, Integer> met = new TreeMap<>();
-        for (int seed = 0; seed < RUNS; seed++) {
+        int runs = args.length > 0 ? Integer.parseInt(args[0]) : RUNS;
+        for (int seed = 0; seed < runs; seed++) {
             new RandomRunsTest(seed, met).go();
         }
         boolean all = true;
@@ -48,7 +52,7 @@ public final class RandomRunsTest {
         if (args.length > 0) {
             System.out.println(met);
         }
-        System.out.println(RUNS + " random runs are answered as the plain model answers them");
+        System.out.println(runs + " random runs are answered as the plain model answers them");
         if (!all) {
             System.exit(1);
         }
