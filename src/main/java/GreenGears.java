@@ -1456,10 +1456,10 @@ public final class GreenGears {
                 readLine(text, stop, line);
                 more = good && place < stop;
                 if (more) {
+                    // a ; wants one line more, at the end of the text too
                     good = text.signAt(place) == ';' && line + 1 < PERIODS;
                     more = good;
                     place += good ? 1 : 0;
-                    // a ; at the end wants one line more
                 }
             }
             if (good && text.size <= BOOK_SIGNS) {
