@@ -1688,7 +1688,9 @@ public final class GreenGears {
                 long below = quotient(up * c, down);
                 for (long n = below; n <= below + 1; n++) {
                     long a = Math.max(low, Math.min(high, n));
-                    if (nearer(a * down - up * c, c, bestA * down - up * bestC, bestC, a - bestA)) {
+                    // of equal ones the first has the fewest teeth: less a and more c than another
+                    // can't be, for that a by the other's c would be nearer than both
+                    if (Math.abs(a * down - up * c) * bestC < Math.abs(bestA * down - up * bestC) * c) {
                         bestA = a;
                         bestC = c;
                     }
@@ -1700,16 +1702,6 @@ public final class GreenGears {
             row.add(bestC);
             row.addFraction(difference, bestC * down);
             return moreOrLess(difference);
-        }
-
-        /** Whether one / c is less than other / d in size, or as much of fewer teeth. */
-        private static boolean nearer(long one, long c, long other, long d, long more) {
-            long here = Math.abs(one) * d;
-            long there = Math.abs(other) * c;
-            if (here != there) {
-                return here < there;
-            }
-            return more + c - d < 0 || more + c - d == 0 && more < 0;
         }
 
         int mostShared(Book periods, int bits, Row row) {

@@ -1,14 +1,5 @@
-import java.util.Arrays;
-import java.util.NoSuchElementException;
-
 /** For each promise of the document by its number: ordinary calls, the edges it names, wrong ones. */
-public final class PromiseTest {
-    private static int checks;
-    private static int wrong;
-    private static int promise;
-
-    private static GreenGears x;
-
+public final class PromiseTest extends Bench {
     public static void main(String[] args) {
         constantsAndNewObject();
         wheels();
@@ -60,103 +51,11 @@ public final class PromiseTest {
         counts();
         rows();
         refusedCallsChangeNothing();
-        System.out.println(checks + " checks, " + wrong + " of them wrong");
-        if (wrong != 0) {
-            System.exit(1);
-        }
+        close();
     }
-
-    // ---- how it is checked
 
     private static void of(int number) {
-        promise = number;
-    }
-
-    private static void due(Object want, Object answer) {
-        checks++;
-        if (!want.toString().equals(answer.toString())) {
-            wrong++;
-            StackTraceElement from = new Throwable().getStackTrace()[1];
-            System.out.println("promise " + promise + ", line " + from.getLineNumber() + ": answered " + answer + ", due is " + want);
-        }
-    }
-
-    /** The answer and the row behind it. */
-    private static String told(int answer) {
-        return answer + rowNow();
-    }
-
-    private static String rowNow() {
-        long[] row = new long[x.count(7)];
-        for (int i = 0; i < row.length; i++) {
-            row[i] = x.row(i);
-        }
-        return Arrays.toString(row);
-    }
-
-    private interface Call {
-        void go();
-    }
-
-    private static void dueThrows(Call call) {
-        String met = "nothing";
-        try {
-            call.go();
-        } catch (RuntimeException e) {
-            met = e.getClass().getSimpleName();
-        }
-        due("NoSuchElementException", met);
-    }
-
-    private static void fresh() {
-        x = new GreenGears();
-    }
-
-    /** The text is just these signs. */
-    private static void text(String signs) {
-        x.end(0);
-        for (int p = 0; p < signs.length(); p += 4) {
-            int v = 0;
-            for (int i = 0; i < 4; i++) {
-                v = v << 8 | (p + i < signs.length() ? signs.charAt(p + i) : 0);
-            }
-            x.sign(v);
-        }
-        x.end(signs.length());
-    }
-
-    private static int book(String signs) {
-        text(signs);
-        return x.book();
-    }
-
-    private static int word(String signs, int what) {
-        text(signs);
-        return x.word(what);
-    }
-
-    private static int names(String signs) {
-        text(signs);
-        return x.names();
-    }
-
-    /** A wheel of so many teeth. */
-    private static int wheel(int teeth, int axle, int depth) {
-        return x.wheel(teeth, teeth, axle, depth);
-    }
-
-    /** Wheels of axle 0 and 1, 1 and 2, ..: each drives the next one. */
-    private static void chain(int... teeth) {
-        fresh();
-        for (int i = 0; i + 1 < teeth.length; i += 2) {
-            int one = wheel(teeth[i], i / 2, i / 2);
-            int other = wheel(teeth[i + 1], i / 2 + 1, i / 2);
-            x.mesh(one, other);
-        }
-    }
-
-    private static String repeat(String signs, int n) {
-        return signs.repeat(n);
+        about = "promise " + number;
     }
 
     // ---- wheels
@@ -1005,32 +904,32 @@ public final class PromiseTest {
         of(23);
         fresh();
         String line = "1999:1999;";
-        String six = repeat(line, 6);
+        String six = line.repeat(6);
         due(60, six.length());
         // 60 signs, the last a ; : it ends too early
         due(-61, book(six));
         due(-61, book(six + "1:1"));
         due(-61, book(six + "x"));
-        String full = repeat(line, 5) + "1999:1999a";
+        String full = line.repeat(5) + "1999:1999a";
         due(60, full.length());
         due(6, book(full));
         due(-61, book(full + ";"));
         due(-61, book(full + "b"));
-        String cut = repeat(line, 5) + "1999:19999";
+        String cut = line.repeat(5) + "1999:19999";
         due(-60, book(cut));
         due(-60, book(cut + "1"));
-        String open = repeat(line, 5) + "19:1999;20";
+        String open = line.repeat(5) + "19:1999;20";
         due(-61, book(open));
         due(-61, book(open + "01:1"));
         due(-61, book(open + "5"));
         // a number that is 0 as far as it stands in the first 60
-        String zero = repeat(line, 5) + "19:1999;00";
+        String zero = line.repeat(5) + "19:1999;00";
         due(-60, book(zero));
         due(-60, book(zero + "5:1"));
-        String wide = repeat(line, 5) + "9:100;2001";
+        String wide = line.repeat(5) + "9:100;2001";
         due(-60, book(wide));
         due(-60, book(wide + "5"));
-        due(-21, book(repeat(line, 2) + ";" + repeat(line, 5)));
+        due(-21, book(line.repeat(2) + ";" + line.repeat(5)));
         due(6, x.count(2));
     }
 
