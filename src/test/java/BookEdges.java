@@ -86,6 +86,26 @@ abstract class BookEdges extends Edges {
         due(0, x.book());
         due(0, x.count(2));
         due(-1, x.meets(1));
+        // of longer books before it nothing is left
+        chain(20, 40);
+        for (int times = 0; times < 2; times++) {
+            due(4, book("1:3a;1:2b;1:2c;1:2d"));
+            due("14[0]", told(x.gives(1)));
+            due(14, x.may(1));
+        }
+        for (int times = 0; times < 2; times++) {
+            due(1, book("1:3a"));
+            due("0[0]", told(x.gives(1)));
+            due(0, x.may(1));
+            due("0[1]", told(word("2", 0)));
+            due("1[9]", told(word("?", 1)));
+            due("1[0]", told(names("?")));
+            due(0, names("b"));
+            due(0, names("??"));
+            due(-1, x.meets(2));
+            due(-1, x.nearest(1));
+        }
+        fresh();
         // a name does not go on to a book without one
         due(1, book("1:1q"));
         due(1, book("1:1"));

@@ -74,6 +74,23 @@ abstract class FittingEdges extends Edges {
         book("1:128;128:1");
         due("1[20, 40, 20, 40, 20, 40, 20, 40, 20, 40, 20, 40, 20, 40]", told(x.fittings(7, 0)));
         due("0[]", told(x.fittings(7, 1)));
+        // the greatest products of all
+        chain(400, 400, 400, 400, 400, 400, 400, 400, 400, 400, 400, 400, 400, 400);
+        book("1:1;1:2000;2000:1");
+        due("1[400, 400, 400, 400, 400, 400, 400, 400, 400, 400, 400, 400, 400, 400]", told(x.fittings(7, 0)));
+        due("0[]", told(x.fittings(7, 1)));
+        due("0[]", told(x.fittings(7, 2)));
+        // a mesh told from the far wheel to the near one
+        fresh();
+        x.wheel(20, 26, 0, 0);
+        x.wheel(10, 13, 1, 0);
+        x.mesh(1, 0);
+        book("2:1;1:2");
+        due("4[20, 10]", told(x.fittings(1, 0)));
+        due("0[]", told(x.fittings(1, 1)));
+        due("0[20, 26, 4]", told(x.sure(1, 0, 0)));
+        due(true, x.fit(1, 0, 3));
+        due("26 13", x.of(0, 2) + " " + x.of(1, 2));
 
         edge("fittings", "-2: it is IDLE; -4; NONE: none such, AXLE 0.");
         tooMany();

@@ -115,6 +115,13 @@ abstract class LeftEdges extends Edges {
         x.left(0, 0, 20, 30);
         x.left(0, 0, 30, 40);
         due("0[1]", told(x.breaks()));
+        fresh();
+        wheel(20, 0, 0);
+        wheel(35, 0, 0);
+        x.left(0, 0, 30, 40);
+        x.left(0, 0, 20, 25);
+        x.left(0, 0, 19, 26);
+        due("0[2]", told(x.breaks()));
         // twelve places need twelve
         fresh();
         for (int i = 0; i < 12; i++) {

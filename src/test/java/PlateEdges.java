@@ -448,6 +448,24 @@ abstract class PlateEdges extends Edges {
         due("98[99, 1]", told(x.uneven(297, 2)));
         // 100 by 99 is as far from 1 as from 101 by 99
         due("0[1, 1]", told(x.uneven(100, 99)));
+        for (int d : new int[] {1, 2, 3, 24, 99, 100, 333, 1000}) {
+            fresh();
+            for (int u = d; u <= 1000; u += 1 + (1000 - d) / 400) {
+                due(nearestUneven(u, d), x.uneven(u, d));
+            }
+        }
+    }
+
+    /** Of all a / 100 the first that is nearest. */
+    private static int nearestUneven(int u, int d) {
+        int best = 0;
+        for (int a = 0; a < 100; a++) {
+            long here = Math.abs((100 + a) * d - (100 - a) * u);
+            long there = Math.abs((100 + best) * d - (100 - best) * u);
+            // here by (100 - a) d against there by (100 - best) d
+            best = here * (100 - best) < there * (100 - a) ? a : best;
+        }
+        return best;
     }
 
     /** They are what 'NONE: others' there says. */

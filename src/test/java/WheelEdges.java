@@ -371,6 +371,28 @@ abstract class WheelEdges extends Edges {
         due(0, x.of(0, 5));
         due(-1, x.part());
         due(0, x.count(1));
+        // one that has gone leads nowhere, jams nothing and is in nobody's way
+        chain(20, 20, 20, 20);
+        book("1:1");
+        wheel(20, 2, 5);
+        x.mesh(0, 4);
+        due("1[2]", told(x.way(2)));
+        due(-3, x.turn(0));
+        due(7, x.jams());
+        x.part();
+        due("2[0, 1]", told(x.way(2)));
+        due(0, x.turn(0));
+        due(0, x.jams());
+        due("1[20, 20, 20, 20]", told(x.fittings(2, 0)));
+        x.part();
+        due(-2, x.way(2));
+        due(-2, x.fittings(2, 0));
+        due(-2, x.may(2));
+        due("1[0]", told(x.way(1)));
+        x.part();
+        due(-2, x.way(1));
+        due("1[1]", told(x.turning()));
+        due("2[2, 0, 1, 0, -1, 0, -1, 0]", told(x.room(0)));
     }
 
     private static void of() {
